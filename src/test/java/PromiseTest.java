@@ -305,6 +305,13 @@ public final class PromiseTest {
         x.happen(0);
         dueHeights(x, 0, 0, 31, 3);
         dueHeights(x, 0, 32, 63, 1);
+        SpanStamps w = quarters();
+        w.happen(0);
+        w.happen(0);
+        w.join(0, 2);
+        w.happen(0);
+        dueHeights(w, 0, 0, 31, 2);
+        dueHeights(w, 0, 32, 63, 0);
         SpanStamps y = quarters();
         y.happen(1);
         y.hear(0, 1);
