@@ -21,31 +21,6 @@ public final class PromiseTest {
         }
     }
 
-    /** Everything that can be asked of an object, so that two states can be told apart. */
-    private static String all(SpanStamps x) {
-        StringBuilder text = new StringBuilder();
-        for (int what = 0; what < 4; what++) {
-            text.append("count ").append(x.count(what)).append('\n');
-        }
-        for (int s = 0; s < 12; s++) {
-            text.append("stamp ").append(s).append(": ").append(row(x, s, true)).append(row(x, s, false));
-            for (int e = -1; e < x.count(2); e++) {
-                text.append(' ').append(x.knows(s, e));
-            }
-            text.append('\n');
-        }
-        return text.toString();
-    }
-
-    private static String row(SpanStamps x, int s, boolean ofName) {
-        StringBuilder text = new StringBuilder();
-        int size = ofName ? x.name(s, -1) : x.tree(s, -1);
-        for (int k = 0; k < size; k++) {
-            text.append(k == 0 ? "" : " ").append(ofName ? x.name(s, k) : x.tree(s, k));
-        }
-        return text.toString();
-    }
-
     private static void dueText(String call, String want, String got) {
         asked++;
         if (!got.equals(want)) {
@@ -54,52 +29,22 @@ public final class PromiseTest {
         }
     }
 
-    private static void dueHeights(SpanStamps x, int s, int from, int to, int want) {
+    private static void dueHeights(Run x, int s, int from, int to, int want) {
+        Run other = x.again();
         for (int cell = from; cell <= to; cell++) {
-            due("height(" + s + ", " + cell + ")", want, x.height(s, cell));
+            due("height(" + s + ", " + cell + ")", want, other.height(s, cell));
         }
     }
 
-    private static void dueOwner(SpanStamps x, int from, int to, int want) {
+    private static void dueOwner(Run x, int from, int to, int want) {
+        Run other = x.again();
         for (int cell = from; cell <= to; cell++) {
-            due("owner(" + cell + ")", want, x.owner(cell));
+            due("owner(" + cell + ")", want, other.owner(cell));
         }
-    }
-
-    /** 0 has CELLS 0 to 31, 1 has 32 to 63. */
-    private static SpanStamps halves() {
-        SpanStamps x = new SpanStamps();
-        x.fork(0);
-        return x;
-    }
-
-    /** 0 has CELLS 0 to 15, 2 has 16 to 31, 1 has 32 to 47, 3 has 48 to 63. */
-    private static SpanStamps quarters() {
-        SpanStamps x = halves();
-        x.fork(0);
-        x.fork(1);
-        return x;
-    }
-
-    /** 0 has CELL 0, 6 CELL 1, 5 has 2 and 3, 4 has 4 to 7, 3 has 8 to 15, 2 has 16 to 31, 1 the rest. */
-    private static SpanStamps ladder() {
-        SpanStamps x = new SpanStamps();
-        for (int i = 0; i < 6; i++) {
-            x.fork(0);
-        }
-        return x;
-    }
-
-    private static SpanStamps crowded() {
-        SpanStamps x = ladder();
-        for (int i = 0; i < 5; i++) {
-            x.peek(1);
-        }
-        return x;
     }
 
     private static void newObject() {
-        SpanStamps x = new SpanStamps();
+        Run x = new Run();
         due("count(0)", 1, x.count(0));
         due("count(1)", 1, x.count(1));
         due("count(2)", 0, x.count(2));
@@ -109,16 +54,15 @@ public final class PromiseTest {
         due("knows(0, -1)", 0, x.knows(0, -1));
         due("restore(0)", STATE, x.restore(0));
         due("restore(1)", STATE, x.restore(1));
-        String before = all(x);
-        SpanStamps y = halves();
+        String before = x.all();
+        Run y = States.halves();
         y.happen(0);
         y.image(1);
-        dueText("another object was used", before, all(x));
-        dueText("a new object", before, all(new SpanStamps()));
+        dueText("a new object", before, new Run().all());
     }
 
     private static void fork() {
-        SpanStamps x = new SpanStamps();
+        Run x = new Run();
         x.happen(0);
         due("fork(0)", 1, x.fork(0));
         dueOwner(x, 0, 31, 0);
@@ -137,14 +81,14 @@ public final class PromiseTest {
     }
 
     private static void forkScattered() {
-        SpanStamps x = ladder();
+        Run x = States.ladder();
         due("fork(5)", 7, x.fork(5));
         due("join(6, 5)", 7, x.join(6, 5));
         due("about(6, 4): CELLS 1 and 2 lie in 0 to 3", 4, x.about(6, 4));
         due("fork(6)", 5, x.fork(6));
         due("owner(1)", 6, x.owner(1));
         due("owner(2)", 5, x.owner(2));
-        SpanStamps y = quarters();
+        Run y = States.quarters();
         y.join(0, 1);
         y.join(2, 3);
         due("fork(2)", 1, y.fork(2));
@@ -153,7 +97,7 @@ public final class PromiseTest {
         due("fork(0)", 3, y.fork(0));
         dueOwner(y, 0, 15, 0);
         dueOwner(y, 32, 47, 3);
-        SpanStamps z = quarters();
+        Run z = States.quarters();
         z.join(0, 2);
         z.join(0, 1);
         due("fork(0) of 0 to 47", 1, z.fork(0));
@@ -162,24 +106,24 @@ public final class PromiseTest {
     }
 
     private static void forkRefused() {
-        SpanStamps x = ladder();
-        String before = all(x);
+        Run x = States.ladder();
+        String before = x.all();
         for (int s : NEVER_A_STAMP) {
             due("fork(" + s + ")", UNKNOWN, x.fork(s));
         }
         due("fork(7)", UNKNOWN, x.fork(7));
         due("fork(0) of one CELL", NO, x.fork(0));
         due("fork(6) of one CELL", NO, x.fork(6));
-        dueText("refused fork", before, all(x));
+        dueText("refused fork", before, x.all());
         due("peek(0)", 7, x.peek(0));
         due("fork(7) of an empty NAME", STATE, x.fork(7));
-        SpanStamps y = crowded();
-        String full = all(y);
+        Run y = States.crowded();
+        String full = y.all();
         due("fork(1) with 12", FULL, y.fork(1));
         due("fork(0) with 12: NO is looked at first", NO, y.fork(0));
         due("fork(11) with 12: STATE is looked at first", STATE, y.fork(11));
-        dueText("refused fork", full, all(y));
-        SpanStamps z = new SpanStamps();
+        dueText("refused fork", full, y.all());
+        Run z = new Run();
         z.fork(0);
         for (int i = 0; i < 5; i++) {
             z.fork(1);
@@ -190,7 +134,7 @@ public final class PromiseTest {
     }
 
     private static void peek() {
-        SpanStamps x = halves();
+        Run x = States.halves();
         x.happen(1);
         x.happen(0);
         due("peek(1)", 2, x.peek(1));
@@ -211,12 +155,12 @@ public final class PromiseTest {
             due("peek(" + s + ")", UNKNOWN, x.peek(s));
         }
         due("peek(4)", UNKNOWN, x.peek(4));
-        SpanStamps y = crowded();
-        String before = all(y);
+        Run y = States.crowded();
+        String before = y.all();
         due("peek(0) with 12", FULL, y.peek(0));
         due("peek(11) with 12", FULL, y.peek(11));
         due("peek(12) with 12", UNKNOWN, y.peek(12));
-        dueText("refused peek", before, all(y));
+        dueText("refused peek", before, y.all());
     }
 
     private static void happen() {
@@ -230,7 +174,7 @@ public final class PromiseTest {
     }
 
     private static void fillWhatLiesInTheName() {
-        SpanStamps x = halves();
+        Run x = States.halves();
         x.happen(0);
         x.join(0, 1);
         due("happen(0)", 1, x.happen(0));
@@ -241,7 +185,7 @@ public final class PromiseTest {
     }
 
     private static void fillFromTheOtherHalf() {
-        SpanStamps x = halves();
+        Run x = States.halves();
         x.happen(1);
         x.happen(1);
         x.hear(0, 1);
@@ -250,7 +194,7 @@ public final class PromiseTest {
         due("knows(0, -1)", 3, x.knows(0, -1));
         due("knows(1, 2)", 0, x.knows(1, 2));
         dueHeights(x, 1, 0, 31, 0);
-        SpanStamps y = halves();
+        Run y = States.halves();
         y.happen(0);
         y.happen(0);
         y.hear(1, 0);
@@ -259,14 +203,14 @@ public final class PromiseTest {
     }
 
     private static void fillTheOtherHalfFirst() {
-        SpanStamps x = quarters();
+        Run x = States.quarters();
         x.join(0, 2);
         x.join(0, 1);
         x.happen(3);
         x.hear(0, 3);
         x.happen(0);
         dueHeights(x, 0, 0, 63, 1);
-        SpanStamps y = quarters();
+        Run y = States.quarters();
         y.join(3, 1);
         y.join(3, 2);
         y.happen(0);
@@ -276,7 +220,7 @@ public final class PromiseTest {
     }
 
     private static void fillBothHalves() {
-        SpanStamps x = quarters();
+        Run x = States.quarters();
         x.join(2, 3);
         x.happen(0);
         x.happen(1);
@@ -286,7 +230,7 @@ public final class PromiseTest {
         x.happen(2);
         dueHeights(x, 2, 0, 31, 1);
         dueHeights(x, 2, 32, 63, 2);
-        SpanStamps y = quarters();
+        Run y = States.quarters();
         y.join(0, 3);
         y.happen(1);
         y.hear(0, 1);
@@ -297,7 +241,7 @@ public final class PromiseTest {
     }
 
     private static void fillLeavesWhatIsHigher() {
-        SpanStamps x = halves();
+        Run x = States.halves();
         x.happen(1);
         x.happen(0);
         x.happen(0);
@@ -305,21 +249,21 @@ public final class PromiseTest {
         x.happen(0);
         dueHeights(x, 0, 0, 31, 3);
         dueHeights(x, 0, 32, 63, 1);
-        SpanStamps w = quarters();
+        Run w = States.quarters();
         w.happen(0);
         w.happen(0);
         w.join(0, 2);
         w.happen(0);
         dueHeights(w, 0, 0, 31, 2);
         dueHeights(w, 0, 32, 63, 0);
-        SpanStamps y = quarters();
+        Run y = States.quarters();
         y.happen(1);
         y.hear(0, 1);
         due("the least of the other half is still 0, so it grows", 0, y.growth(0, 0));
         y.happen(0);
         dueHeights(y, 0, 0, 15, 1);
         dueHeights(y, 0, 16, 31, 0);
-        SpanStamps z = halves();
+        Run z = States.halves();
         z.happen(0);
         z.fork(0);
         z.happen(0);
@@ -332,7 +276,7 @@ public final class PromiseTest {
     }
 
     private static void growCheapest() {
-        SpanStamps x = quarters();
+        Run x = States.quarters();
         x.join(2, 3);
         x.happen(2);
         due("of two as cheap the one with the greatest CELLS", 1, x.height(2, 48));
@@ -341,13 +285,13 @@ public final class PromiseTest {
         x.happen(2);
         dueHeights(x, 2, 0, 47, 0);
         dueHeights(x, 2, 48, 63, 2);
-        SpanStamps y = quarters();
+        Run y = States.quarters();
         y.join(0, 2);
         y.join(0, 3);
         y.happen(0);
         dueHeights(y, 0, 0, 31, 1);
         dueHeights(y, 0, 32, 63, 0);
-        SpanStamps z = ladder();
+        Run z = States.ladder();
         z.happen(0);
         dueHeights(z, 0, 0, 0, 1);
         dueHeights(z, 0, 1, 63, 0);
@@ -355,14 +299,14 @@ public final class PromiseTest {
     }
 
     private static void growWhereHeightsDifferAlready() {
-        SpanStamps x = ladder();
+        Run x = States.ladder();
         x.happen(0);
         x.join(1, 0);
         due("32 to 63 is a half: 1 and no level", 1, x.growth(1, 2));
         x.happen(1);
         dueHeights(x, 1, 0, 0, 1);
         dueHeights(x, 1, 32, 63, 1);
-        SpanStamps y = ladder();
+        Run y = States.ladder();
         y.happen(0);
         y.join(0, 4);
         due("4 to 7 is 4 deep and begins a part with all alike", 4, y.growth(0, 2));
@@ -374,30 +318,30 @@ public final class PromiseTest {
     }
 
     private static void happenRefused() {
-        SpanStamps x = halves();
+        Run x = States.halves();
         x.peek(0);
-        String before = all(x);
+        String before = x.all();
         for (int s : NEVER_A_STAMP) {
             due("happen(" + s + ")", UNKNOWN, x.happen(s));
         }
         due("happen(3)", UNKNOWN, x.happen(3));
         due("happen(2) of an empty NAME", STATE, x.happen(2));
-        dueText("refused happen", before, all(x));
+        dueText("refused happen", before, x.all());
         for (int e = 0; e < 60; e++) {
             due("happen(" + e % 2 + ")", e, x.happen(e % 2));
         }
-        String full = all(x);
+        String full = x.all();
         due("happen(0) after 60", FULL, x.happen(0));
         due("happen(1) after 60", FULL, x.happen(1));
         due("happen(2) after 60: STATE is looked at first", STATE, x.happen(2));
         due("happen(3) after 60: UNKNOWN is looked at first", UNKNOWN, x.happen(3));
-        dueText("refused happen", full, all(x));
+        dueText("refused happen", full, x.all());
         due("knows(1, 59)", 1, x.knows(1, 59));
         due("height(1, 63)", 30, x.height(1, 63));
     }
 
     private static void hear() {
-        SpanStamps x = quarters();
+        Run x = States.quarters();
         x.happen(0);
         x.happen(1);
         x.happen(1);
@@ -415,13 +359,13 @@ public final class PromiseTest {
         dueOwner(x, 48, 63, 3);
         dueOwner(x, 0, 15, 0);
         due("count(0)", 4, x.count(0));
-        SpanStamps y = halves();
-        String before = all(y);
+        Run y = States.halves();
+        String before = y.all();
         pairRefused(y, before);
     }
 
     /** What hear, join, share and order do with STAMPS that are not there, and with one alone. */
-    private static void pairRefused(SpanStamps x, String before) {
+    private static void pairRefused(Run x, String before) {
         for (int s : NEVER_A_STAMP) {
             for (int call = 0; call < 4; call++) {
                 due("pair call " + call + " of " + s + " and 0", UNKNOWN, pair(x, call, s, 0));
@@ -433,15 +377,15 @@ public final class PromiseTest {
             due("pair call " + call + " of 5 twice", UNKNOWN, pair(x, call, 5, 5));
             due("pair call " + call + " of 1 twice", call == 3 ? 0 : OUTSIDE, pair(x, call, 1, 1));
         }
-        dueText("refused hear, join, share", before, all(x));
+        dueText("refused hear, join, share", before, x.all());
     }
 
-    private static int pair(SpanStamps x, int call, int s, int t) {
+    private static int pair(Run x, int call, int s, int t) {
         return call == 0 ? x.hear(s, t) : call == 1 ? x.join(s, t) : call == 2 ? x.share(s, t) : x.order(s, t);
     }
 
     private static void join() {
-        SpanStamps x = quarters();
+        Run x = States.quarters();
         x.happen(3);
         x.happen(0);
         due("join(0, 3)", 3, x.join(0, 3));
@@ -464,12 +408,12 @@ public final class PromiseTest {
         due("about(0, 0)", 16, x.about(0, 0));
         due("join(0, 2)", 1, x.join(0, 2));
         due("about(0, 0)", 64, x.about(0, 0));
-        SpanStamps y = halves();
-        pairRefused(y, all(y));
+        Run y = States.halves();
+        pairRefused(y, y.all());
     }
 
     private static void share() {
-        SpanStamps x = quarters();
+        Run x = States.quarters();
         x.happen(3);
         x.happen(0);
         due("share(3, 0)", 16, x.share(3, 0));
@@ -482,7 +426,7 @@ public final class PromiseTest {
             due("knows(" + s + ", -1)", 2, x.knows(s, -1));
         }
         due("count(0)", 4, x.count(0));
-        SpanStamps y = ladder();
+        Run y = States.ladder();
         y.peek(1);
         due("share(7, 1): one NAME is empty", 16, y.share(7, 1));
         dueOwner(y, 32, 47, 7);
@@ -498,44 +442,44 @@ public final class PromiseTest {
     }
 
     private static void shareRefused() {
-        SpanStamps x = ladder();
+        Run x = States.ladder();
         x.happen(0);
         x.peek(1);
         x.peek(0);
         x.peek(6);
-        String before = all(x);
+        String before = x.all();
         due("share(7, 8): both are empty", STATE, x.share(7, 8));
         due("share(7, 7)", OUTSIDE, x.share(7, 7));
         due("share(0, 7): one CELL", NO, x.share(0, 7));
         due("share(9, 6): one CELL", NO, x.share(9, 6));
-        dueText("refused share", before, all(x));
+        dueText("refused share", before, x.all());
         due("share(0, 6): two CELLS", 1, x.share(0, 6));
         due("owner(0)", 0, x.owner(0));
         due("owner(1)", 6, x.owner(1));
-        SpanStamps y = halves();
-        pairRefused(y, all(y));
-        SpanStamps z = crowded();
+        Run y = States.halves();
+        pairRefused(y, y.all());
+        Run z = States.crowded();
         due("share(1, 11) with 12", 16, z.share(1, 11));
     }
 
     private static void drop() {
-        SpanStamps x = halves();
+        Run x = States.halves();
         x.peek(0);
         x.peek(0);
         due("drop(2)", 3, x.drop(2));
         due("count(1)", 11, x.count(1));
         due("drop(2) again", UNKNOWN, x.drop(2));
-        String before = all(x);
+        String before = x.all();
         for (int s : NEVER_A_STAMP) {
             due("drop(" + s + ")", UNKNOWN, x.drop(s));
         }
         due("drop(0)", NO, x.drop(0));
         due("drop(1)", NO, x.drop(1));
-        dueText("refused drop", before, all(x));
+        dueText("refused drop", before, x.all());
         due("drop(3)", 2, x.drop(3));
-        SpanStamps y = ladder();
+        Run y = States.ladder();
         due("drop(0) of one CELL", NO, y.drop(0));
-        SpanStamps z = new SpanStamps();
+        Run z = new Run();
         for (int i = 0; i < 5; i++) {
             z.fork(0);
             z.share(1, 0);
@@ -548,7 +492,7 @@ public final class PromiseTest {
     }
 
     private static void order() {
-        SpanStamps x = quarters();
+        Run x = States.quarters();
         due("order(0, 1)", 0, x.order(0, 1));
         due("order(0, 0)", 0, x.order(0, 0));
         x.happen(0);
@@ -563,10 +507,10 @@ public final class PromiseTest {
         due("order(3, 0)", 2, x.order(3, 0));
         x.hear(0, 3);
         due("order(0, 3)", 0, x.order(0, 3));
-        SpanStamps y = ladder();
+        Run y = States.ladder();
         y.happen(6);
         due("order(6, 1): one CELL is greater", 2, y.order(6, 1));
-        SpanStamps z = new SpanStamps();
+        Run z = new Run();
         z.fork(0);
         for (int i = 0; i < 5; i++) {
             z.fork(i == 0 ? 1 : i + 1);
@@ -574,11 +518,11 @@ public final class PromiseTest {
         due("owner(63)", 6, z.owner(63));
         z.happen(6);
         due("order(0, 6): the last CELL is less", 1, z.order(0, 6));
-        pairRefused(halves(), all(halves()));
+        pairRefused(States.halves(), States.halves().all());
     }
 
     private static void knows() {
-        SpanStamps x = halves();
+        Run x = States.halves();
         due("knows(0, 0): there was none", OUTSIDE, x.knows(0, 0));
         due("knows(0, -1)", 0, x.knows(0, -1));
         x.happen(1);
@@ -608,7 +552,7 @@ public final class PromiseTest {
     }
 
     private static void height() {
-        SpanStamps x = halves();
+        Run x = States.halves();
         x.happen(1);
         due("height(1, 31)", 0, x.height(1, 31));
         due("height(1, 32)", 1, x.height(1, 32));
@@ -626,7 +570,7 @@ public final class PromiseTest {
     }
 
     private static void owner() {
-        SpanStamps x = ladder();
+        Run x = States.ladder();
         due("owner(0)", 0, x.owner(0));
         due("owner(1)", 6, x.owner(1));
         dueOwner(x, 2, 3, 5);
@@ -649,20 +593,20 @@ public final class PromiseTest {
     }
 
     private static void name() {
-        SpanStamps x = quarters();
-        dueText("name of 0", "2 2 1 0 0", row(x, 0, true));
-        dueText("name of 2", "2 2 0 1 0", row(x, 2, true));
-        dueText("name of 1", "2 0 2 1 0", row(x, 1, true));
-        dueText("name of 3", "2 0 2 0 1", row(x, 3, true));
+        Run x = States.quarters();
+        dueText("name of 0", "2 2 1 0 0", x.nameRow(0));
+        dueText("name of 2", "2 2 0 1 0", x.nameRow(2));
+        dueText("name of 1", "2 0 2 1 0", x.nameRow(1));
+        dueText("name of 3", "2 0 2 0 1", x.nameRow(3));
         x.join(0, 3);
-        dueText("name of 0", "2 2 1 0 2 0 1", row(x, 0, true));
+        dueText("name of 0", "2 2 1 0 2 0 1", x.nameRow(0));
         x.join(0, 2);
-        dueText("name of 0", "2 1 2 0 1", row(x, 0, true));
+        dueText("name of 0", "2 1 2 0 1", x.nameRow(0));
         x.join(0, 1);
-        dueText("name of 0", "1", row(x, 0, true));
+        dueText("name of 0", "1", x.nameRow(0));
         due("peek(0)", 1, x.peek(0));
-        dueText("name of 1", "0", row(x, 1, true));
-        dueText("name of CELL 1", "2 2 2 2 2 2 0 1 0 0 0 0 0", row(ladder(), 6, true));
+        dueText("name of 1", "0", x.nameRow(1));
+        dueText("name of CELL 1", "2 2 2 2 2 2 0 1 0 0 0 0 0", States.ladder().nameRow(6));
         due("name(1, -1)", 1, x.name(1, -1));
         due("name(1, 1)", NONE, x.name(1, 1));
         due("name(1, MAX)", NONE, x.name(1, Integer.MAX_VALUE));
@@ -677,23 +621,23 @@ public final class PromiseTest {
     }
 
     private static void tree() {
-        SpanStamps x = quarters();
-        dueText("tree of 0", "0", row(x, 0, false));
+        Run x = States.quarters();
+        dueText("tree of 0", "0", x.treeRow(0));
         x.happen(0);
-        dueText("tree of 0", "1000 0 1000 0 1 0 0", row(x, 0, false));
+        dueText("tree of 0", "1000 0 1000 0 1 0 0", x.treeRow(0));
         x.happen(2);
         x.happen(2);
         x.happen(2);
         x.hear(2, 0);
-        dueText("tree of 2", "1000 0 1000 1 0 2 0", row(x, 2, false));
+        dueText("tree of 2", "1000 0 1000 1 0 2 0", x.treeRow(2));
         x.happen(3);
         x.happen(1);
         x.hear(3, 1);
         x.hear(2, 3);
-        dueText("tree of 2", "1000 1 1000 0 0 2 0", row(x, 2, false));
-        SpanStamps y = ladder();
+        dueText("tree of 2", "1000 1 1000 0 0 2 0", x.treeRow(2));
+        Run y = States.ladder();
         y.happen(6);
-        dueText("tree of 6", "1000 0 1000 0 1000 0 1000 0 1000 0 1000 0 0 1 0 0 0 0 0", row(y, 6, false));
+        dueText("tree of 6", "1000 0 1000 0 1000 0 1000 0 1000 0 1000 0 0 1 0 0 0 0 0", y.treeRow(6));
         due("tree(0, -1)", 1, y.tree(0, -1));
         due("tree(0, 1)", NONE, y.tree(0, 1));
         due("tree(6, 19)", NONE, y.tree(6, 19));
@@ -710,7 +654,7 @@ public final class PromiseTest {
     }
 
     private static void about() {
-        SpanStamps x = new SpanStamps();
+        Run x = new Run();
         dueAbout(x, 0, 64, 1, 0, 0, 0);
         x.happen(0);
         dueAbout(x, 0, 64, 1, 1, 1, 0);
@@ -725,7 +669,7 @@ public final class PromiseTest {
         dueAbout(x, 2, 48, 2, 2, 1, 0);
         x.peek(2);
         dueAbout(x, 1, 0, 0, 2, 1, NONE);
-        SpanStamps y = ladder();
+        Run y = States.ladder();
         dueAbout(y, 0, 1, 1, 0, 0, 6);
         dueAbout(y, 5, 2, 1, 0, 0, 5);
         y.join(6, 5);
@@ -745,14 +689,14 @@ public final class PromiseTest {
         due("about(3, 0)", UNKNOWN, x.about(3, 0));
     }
 
-    private static void dueAbout(SpanStamps x, int s, int... want) {
+    private static void dueAbout(Run x, int s, int... want) {
         for (int what = 0; what < want.length; what++) {
             due("about(" + s + ", " + what + ")", want[what], x.about(s, what));
         }
     }
 
     private static void growth() {
-        SpanStamps x = new SpanStamps();
+        Run x = new Run();
         dueGrowth(x, 0, 0, 64, 0, 0, 0);
         x.fork(0);
         dueGrowth(x, 1, 0, 32, 1001, 32, 1);
@@ -764,12 +708,12 @@ public final class PromiseTest {
         x.fork(1);
         x.join(2, 3);
         dueGrowth(x, 2, 0, 16, 1002, 48, 2);
-        String before = all(x);
+        String before = x.all();
         dueGrowth(x, 2, 0, 16, 1002, 48, 2);
-        dueText("growth changes nothing", before, all(x));
+        dueText("growth changes nothing", before, x.all());
         x.happen(2);
         dueGrowth(x, 2, 0, 16, 2, 48, 2);
-        SpanStamps y = ladder();
+        Run y = States.ladder();
         dueGrowth(y, 0, 0, 1, 6006, 0, 6);
         y.join(0, 2);
         dueGrowth(y, 0, 0, 16, 2002, 16, 2);
@@ -779,7 +723,7 @@ public final class PromiseTest {
     }
 
     private static void growthRefused() {
-        SpanStamps x = halves();
+        Run x = States.halves();
         x.peek(0);
         for (int what = 0; what <= 4; what++) {
             due("growth(2, " + what + ") of an empty NAME", STATE, x.growth(2, what));
@@ -799,14 +743,14 @@ public final class PromiseTest {
         dueGrowth(x, 0, 0, 32, 1, 0, 1);
     }
 
-    private static void dueGrowth(SpanStamps x, int s, int... want) {
+    private static void dueGrowth(Run x, int s, int... want) {
         for (int what = 0; what < want.length; what++) {
             due("growth(" + s + ", " + what + ")", want[what], x.growth(s, what));
         }
     }
 
     private static void unlike() {
-        SpanStamps x = new SpanStamps();
+        Run x = new Run();
         dueUnlike(x, 1, 1, 1);
         x.fork(0);
         dueUnlike(x, 1, 2, 2);
@@ -832,17 +776,17 @@ public final class PromiseTest {
         due("unlike(-1)", OUTSIDE, x.unlike(-1));
         due("unlike(MIN)", OUTSIDE, x.unlike(Integer.MIN_VALUE));
         due("unlike(MAX)", OUTSIDE, x.unlike(Integer.MAX_VALUE));
-        dueUnlike(crowded(), 1, 8, 12);
+        dueUnlike(States.crowded(), 1, 8, 12);
     }
 
-    private static void dueUnlike(SpanStamps x, int... want) {
+    private static void dueUnlike(Run x, int... want) {
         for (int what = 0; what < want.length; what++) {
             due("unlike(" + what + ")", want[what], x.unlike(what));
         }
     }
 
     private static void image() {
-        SpanStamps x = halves();
+        Run x = States.halves();
         due("image(2)", OUTSIDE, x.image(2));
         due("image(-1)", OUTSIDE, x.image(-1));
         due("image(MIN)", OUTSIDE, x.image(Integer.MIN_VALUE));
@@ -855,16 +799,16 @@ public final class PromiseTest {
         due("count(3)", 3, x.count(3));
         x.happen(1);
         due("image(0) in place of what was kept", 1, x.image(0));
-        String later = all(x);
+        String later = x.all();
         x.join(0, 1);
         x.restore(1);
         due("count(2)", 1, x.count(2));
         x.restore(0);
-        dueText("restored the later image", later, all(x));
+        dueText("restored the later image", later, x.all());
     }
 
     private static void restore() {
-        SpanStamps x = halves();
+        Run x = States.halves();
         due("restore(0)", STATE, x.restore(0));
         due("restore(2)", OUTSIDE, x.restore(2));
         due("restore(-1)", OUTSIDE, x.restore(-1));
@@ -874,33 +818,33 @@ public final class PromiseTest {
         x.peek(0);
         x.image(1);
         due("restore(0)", STATE, x.restore(0));
-        String kept = all(x);
+        String kept = x.all();
         x.happen(1);
         x.hear(0, 1);
         x.drop(2);
         x.fork(1);
         x.fork(1);
         due("restore(1)", 1, x.restore(1));
-        dueText("restored", kept, all(x));
+        dueText("restored", kept, x.all());
         x.share(1, 0);
         x.happen(0);
         x.join(0, 1);
         due("restore(1) again", 1, x.restore(1));
-        dueText("restored again", kept, all(x));
+        dueText("restored again", kept, x.all());
         due("happen(1) has the number that came back", 1, x.happen(1));
         due("knows(0, 1)", 0, x.knows(0, 1));
         x.image(0);
-        String other = all(x);
+        String other = x.all();
         x.restore(1);
         due("count(2)", 1, x.count(2));
         due("count(3): the IMAGES stay", 3, x.count(3));
         x.restore(0);
-        dueText("restored the other one", other, all(x));
+        dueText("restored the other one", other, x.all());
         restoreAfterFull();
     }
 
     private static void restoreAfterFull() {
-        SpanStamps x = new SpanStamps();
+        Run x = new Run();
         x.image(0);
         for (int e = 0; e < 61; e++) {
             x.happen(0);
@@ -911,7 +855,7 @@ public final class PromiseTest {
     }
 
     private static void count() {
-        SpanStamps x = halves();
+        Run x = States.halves();
         x.fork(0);
         x.peek(2);
         due("count(0)", 4, x.count(0));
@@ -931,7 +875,7 @@ public final class PromiseTest {
         due("count(-1)", OUTSIDE, x.count(-1));
         due("count(MIN)", OUTSIDE, x.count(Integer.MIN_VALUE));
         due("count(MAX)", OUTSIDE, x.count(Integer.MAX_VALUE));
-        SpanStamps y = crowded();
+        Run y = States.crowded();
         due("count(0)", 12, y.count(0));
         due("count(1)", 4095, y.count(1));
     }
