@@ -426,6 +426,16 @@ public final class ToldEdgeTest {
         Check.told(all, Call.UNLIKE, 0, 11);
         all.hear(1, 0);
         Check.told(all, Call.UNLIKE, 0, 10);
+        Run gone = new Run();
+        gone.peek(0);
+        gone.join(1, 0);
+        Check.due("who went was EVEN", 1, gone.unlike(0));
+        gone.peek(1);
+        gone.happen(1);
+        gone.drop(0);
+        gone.peek(1);
+        gone.drop(0);
+        Check.told(gone, Call.UNLIKE, 0, 1);
         Run near = States.halves();
         near.happen(0);
         near.happen(1);
@@ -457,6 +467,10 @@ public final class ToldEdgeTest {
         emptyFirst.peek(1);
         Check.due("0 has an empty NAME", 0, emptyFirst.about(0, 0));
         Check.told(emptyFirst, Call.UNLIKE, 1, 2);
+        emptyFirst.drop(0);
+        Check.told(emptyFirst, Call.UNLIKE, 1, 2);
+        emptyFirst.drop(2);
+        Check.told(emptyFirst, Call.UNLIKE, 1, 1);
     }
 
     private static void unlikeBeforeNone() {
@@ -492,6 +506,15 @@ public final class ToldEdgeTest {
         Check.told(gone, Call.UNLIKE, 2, 1);
         gone.peek(1);
         Check.told(gone, Call.UNLIKE, 2, 2);
+        Run after = States.halves();
+        after.peek(0);
+        after.happen(0);
+        after.happen(1);
+        after.hear(2, 0);
+        after.hear(2, 1);
+        Check.told(after, Call.UNLIKE, 2, 1);
+        after.drop(2);
+        Check.due("who went was after both", 2, after.unlike(2));
     }
 
     private static void unlikeOutside() {
